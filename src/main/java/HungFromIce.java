@@ -52,7 +52,7 @@ public final class HungFromIce {
         kept = new Past(MOST_KEPT);
         one = new Drifter(sea);
         other = new Drifter(sea);
-        sound = new Sound();
+        sound = new Sound(sea);
         hearing = new Hearing(sea, sound);
         moves = new Moves(sea, sound);
         drifts = new Drifts();
@@ -142,7 +142,7 @@ public final class HungFromIce {
     public int hang(int t, int x) {
         if (!sea.isTown(t) || !sea.isPlace(x)) return BAD;
         int spot = spotOf(sea.told.townLevel[t], x);
-        if (sea.now.townCut[t] || sound.isShut(spot)) return NO;
+        if (sea.now.townCut[t] || !sound.isOpen(spot)) return NO;
         if (sea.townAt(sea.told.townLevel[t], x, NOBODY) != NONE) return NO;
         undoable.push(sea.now);
         int before = sea.now.townPlace[t];
@@ -201,17 +201,18 @@ public final class HungFromIce {
 
     public int time(int l, int x, int k, int y) {
         if (!sea.isLevel(l) || !sea.isPlace(x) || !sea.isLevel(k) || !sea.isPlace(y)) return BAD;
-        int beats = sound.between(spotOf(l, x), spotOf(k, y));
+        int beats = sound.rowFrom(spotOf(l, x)).beatsTo(spotOf(k, y));
         return beats < FAR ? beats : NONE;
     }
 
     public int hears(int t, int b) {
         if (!sea.isTown(t) || !within(b, 0, MOST_BEATS)) return BAD;
         if (sea.now.townCut[t]) return NO;
+        Row row = sound.rowFrom(sea.townSpot(t));
         int bits = 0;
         for (int u = 0; u < sea.told.towns; u++) {
             if (u == t || sea.now.townCut[u]) continue;
-            if (sound.between(sea.townSpot(t), sea.townSpot(u)) <= b) bits |= 1 << u;
+            if (row.beatsTo(sea.townSpot(u)) <= b) bits |= 1 << u;
         }
         return bits;
     }
@@ -219,11 +220,12 @@ public final class HungFromIce {
     public int shadow(int t) {
         if (!sea.isTown(t)) return BAD;
         if (sea.now.townCut[t]) return NO;
+        Row row = sound.rowFrom(sea.townSpot(t));
         int dark = 0;
         for (int l = 0; l < sea.told.levels; l++) {
             for (int x = 0; x < sea.told.places; x++) {
                 int spot = spotOf(l, x);
-                if (!sound.isShut(spot) && sound.between(sea.townSpot(t), spot) >= FAR) dark++;
+                if (sound.isOpen(spot) && row.beatsTo(spot) >= FAR) dark++;
             }
         }
         return dark;
@@ -387,7 +389,7 @@ public final class HungFromIce {
         sea.told = draft;
         draft = before;
         sea.start();
-        sound.start(sea.told);
+        sound.start();
         hearing.empty();
         drifts.empty();
         undoable.empty();
@@ -839,62 +841,73 @@ public final class HungFromIce {
         }
     }
 
-    /** How many beats SOUND takes from one LEVEL and PLACE to all. */
+    /** How many beats SOUND takes from one LEVEL and PLACE to all: FAR, where it never comes. */
     private static final class Row {
         final int[] beats = new int[SPOTS];
         boolean known = false;
+
+        void silence() {
+            for (int i = 0; i < SPOTS; i++) beats[i] = FAR;
+        }
+
+        int beatsTo(int spot) {
+            return spot >= 0 && spot < SPOTS ? beats[spot] : FAR;
+        }
     }
 
     /** How SOUND goes in the sea as laid: TOWNS do not bear on it, so a Row stays good until the next sea. */
     private static final class Sound {
+        private final Sea sea;
         private final Row[] rows = new Row[SPOTS];
+        private final Row nowhere = new Row();
         private final boolean[] shut = new boolean[SPOTS];
-        private Told told = null;
 
-        void start(Told laid) {
-            told = laid;
+        Sound(Sea sea) {
+            this.sea = sea;
+            nowhere.silence();
+        }
+
+        void start() {
             for (int i = 0; i < SPOTS; i++) {
                 shut[i] = false;
                 if (rows[i] != null) rows[i].known = false;
             }
-            for (int m = 0; m < laid.markets; m++) {
-                shut[spotOf(laid.marketLevel[m], laid.marketPlace[m])] = true;
+            for (int m = 0; m < sea.told.markets; m++) {
+                shut[spotOf(sea.told.marketLevel[m], sea.told.marketPlace[m])] = true;
             }
         }
 
-        boolean isShut(int spot) {
-            return spot >= 0 && spot < SPOTS && shut[spot];
+        boolean isOpen(int spot) {
+            return spot >= 0 && spot < SPOTS && !shut[spot];
         }
 
-        /** FAR, if it never comes. */
-        int between(int from, int to) {
-            if (from < 0 || from >= SPOTS || to < 0 || to >= SPOTS) return FAR;
-            Row row = rows[from];
+        Row rowFrom(int spot) {
+            if (!isOpen(spot)) return nowhere;
+            Row row = rows[spot];
             if (row == null) {
                 row = new Row();
-                rows[from] = row;
+                rows[spot] = row;
             }
-            if (!row.known) fill(row, from);
-            return row.beats[to];
+            if (!row.known) fill(row, spot);
+            return row;
         }
 
         private void fill(Row row, int from) {
-            for (int i = 0; i < SPOTS; i++) row.beats[i] = FAR;
-            row.known = true;
-            if (shut[from]) return;
+            row.silence();
             row.beats[from] = 0;
             boolean better = true;
-            // no way has more PLACES than there are, and each sweep settles one more of each way
+            // each sweep settles one PLACE more of each way, and no way has more PLACES than there are;
+            // to and fro, as a way that runs against one sweep runs with the next
             for (int sweep = 0; better && sweep <= SPOTS; sweep++) {
                 better = sweep % 2 == 0 ? sweepDown(row.beats) : sweepUp(row.beats);
             }
+            row.known = true;
         }
 
         private boolean sweepDown(int[] beats) {
             boolean better = false;
-            if (told == null) return false;
-            for (int l = 0; l < told.levels; l++) {
-                for (int x = 0; x < told.places; x++) {
+            for (int l = 0; l < sea.told.levels; l++) {
+                for (int x = 0; x < sea.told.places; x++) {
                     if (improve(beats, l, x)) better = true;
                 }
             }
@@ -903,9 +916,8 @@ public final class HungFromIce {
 
         private boolean sweepUp(int[] beats) {
             boolean better = false;
-            if (told == null) return false;
-            for (int l = told.levels - 1; l >= 0; l--) {
-                for (int x = told.places - 1; x >= 0; x--) {
+            for (int l = sea.told.levels - 1; l >= 0; l--) {
+                for (int x = sea.told.places - 1; x >= 0; x--) {
                     if (improve(beats, l, x)) better = true;
                 }
             }
@@ -914,12 +926,18 @@ public final class HungFromIce {
 
         /** Whether SOUND comes there sooner by a neighbour than was known. */
         private boolean improve(int[] beats, int l, int x) {
-            int spot = spotOf(l, x);
-            if (isShut(spot)) return false;
-            int best = Math.min(beats[spot], beats[spotOf(l, told.wrap(x + 1))] + 1);
-            best = Math.min(best, beats[spotOf(l, told.wrap(x - 1))] + 1);
-            if (l > 0) best = Math.min(best, beats[spotOf(l - 1, x)] + told.beats[l - 1]);
-            if (l + 1 < told.levels) best = Math.min(best, beats[spotOf(l + 1, x)] + told.beats[l]);
+            Told told = sea.told;
+            int spot = MOST_PLACES * l + x;
+            if (shut[spot]) return false;
+            int right = x + 1 < told.places ? spot + 1 : spot - x;
+            int left = x > 0 ? spot - 1 : spot + told.places - 1;
+            int best = beats[right] < beats[left] ? beats[right] + 1 : beats[left] + 1;
+            if (l > 0 && beats[spot - MOST_PLACES] + told.beats[l - 1] < best) {
+                best = beats[spot - MOST_PLACES] + told.beats[l - 1];
+            }
+            if (l + 1 < told.levels && beats[spot + MOST_PLACES] + told.beats[l] < best) {
+                best = beats[spot + MOST_PLACES] + told.beats[l];
+            }
             if (best >= beats[spot]) return false;
             beats[spot] = best;
             return true;
@@ -961,7 +979,7 @@ public final class HungFromIce {
             for (int l = 0; l < sea.told.levels; l++) {
                 for (int x = 0; x < sea.told.places; x++) {
                     int spot = spotOf(l, x);
-                    if (sound.isShut(spot) || !canBeSource(spot)) continue;
+                    if (!sound.isOpen(spot) || !canBeSource(spot)) continue;
                     if (lowest == NONE) lowest = spot;
                     sources++;
                 }
@@ -973,7 +991,7 @@ public final class HungFromIce {
             int begun = 0;
             for (int i = 0; i < amount; i++) {
                 // a way takes as long back as forth, so the few rows of the TOWNS serve for all
-                int taken = sound.between(sea.townSpot(towns[i]), spot);
+                int taken = sound.rowFrom(sea.townSpot(towns[i])).beatsTo(spot);
                 if (taken >= FAR) return false;
                 if (i > 0 && beats[i] - taken != begun) return false;
                 begun = beats[i] - taken;
@@ -987,6 +1005,7 @@ public final class HungFromIce {
         private final Sea sea;
         private final Sound sound;
         private final int[] spots = new int[MOST_TOWNS];
+        private final Row[] rows = new Row[MOST_TOWNS];
         private int most = 0;
         int fewest = NONE;
         int lower = NONE;
@@ -1002,10 +1021,15 @@ public final class HungFromIce {
             fewest = NONE;
             lower = NONE;
             upper = NONE;
-            for (int t = 0; t < sea.told.towns; t++) spots[t] = sea.townSpot(t);
+            for (int t = 0; t < sea.told.towns; t++) hangAt(t, sea.townSpot(t));
             if (allHear(NOBODY)) fewest = 0;
             else if (seekOne()) fewest = 1;
             else if (seekTwo()) fewest = 2;
+        }
+
+        private void hangAt(int t, int spot) {
+            spots[t] = spot;
+            rows[t] = sound.rowFrom(spot);
         }
 
         private boolean seekOne() {
@@ -1025,9 +1049,9 @@ public final class HungFromIce {
             int home = spots[t];
             for (int x = 0; x < sea.told.places; x++) {
                 if (!isFree(t, x)) continue;
-                spots[t] = spotOf(sea.told.townLevel[t], x);
+                hangAt(t, spotOf(sea.told.townLevel[t], x));
                 upper = seekAbove(t);
-                spots[t] = home;
+                hangAt(t, home);
                 if (upper == NONE) continue;
                 lower = MOST_PLACES * t + x;
                 return true;
@@ -1054,7 +1078,7 @@ public final class HungFromIce {
 
         private boolean isFree(int t, int x) {
             int spot = spotOf(sea.told.townLevel[t], x);
-            if (sound.isShut(spot)) return false;
+            if (!sound.isOpen(spot)) return false;
             for (int u = 0; u < sea.told.towns; u++) {
                 if (!sea.now.townCut[u] && spots[u] == spot) return false;
             }
@@ -1067,7 +1091,7 @@ public final class HungFromIce {
                 if (t == aside || sea.now.townCut[t]) continue;
                 for (int u = 0; u < t; u++) {
                     if (u == aside || sea.now.townCut[u]) continue;
-                    if (sound.between(spots[t], spots[u]) > most) return false;
+                    if (beatsFrom(u, spots[t]) > most) return false;
                 }
             }
             return true;
@@ -1076,9 +1100,14 @@ public final class HungFromIce {
         private boolean allHearAt(int t, int spot) {
             for (int u = 0; u < sea.told.towns; u++) {
                 if (u == t || sea.now.townCut[u]) continue;
-                if (sound.between(spots[u], spot) > most) return false;
+                if (beatsFrom(u, spot) > most) return false;
             }
             return true;
+        }
+
+        private int beatsFrom(int t, int spot) {
+            Row row = rows[t];
+            return row == null ? FAR : row.beats[spot];
         }
     }
 
