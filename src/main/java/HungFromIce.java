@@ -893,35 +893,23 @@ public final class HungFromIce {
         }
 
         private void fill(Row row, int from) {
+            int bottom = sea.told.levels - 1;
+            int end = sea.told.places - 1;
             row.silence();
             row.beats[from] = 0;
             boolean better = true;
             // each sweep settles one PLACE more of each way, and no way has more PLACES than there are;
             // to and fro, as a way that runs against one sweep runs with the next
             for (int sweep = 0; better && sweep <= SPOTS; sweep++) {
-                better = sweep % 2 == 0 ? sweepDown(row.beats) : sweepUp(row.beats);
+                boolean down = sweep % 2 == 0;
+                better = false;
+                for (int l = 0; l <= bottom; l++) {
+                    for (int x = 0; x <= end; x++) {
+                        if (improve(row.beats, down ? l : bottom - l, down ? x : end - x)) better = true;
+                    }
+                }
             }
             row.known = true;
-        }
-
-        private boolean sweepDown(int[] beats) {
-            boolean better = false;
-            for (int l = 0; l < sea.told.levels; l++) {
-                for (int x = 0; x < sea.told.places; x++) {
-                    if (improve(beats, l, x)) better = true;
-                }
-            }
-            return better;
-        }
-
-        private boolean sweepUp(int[] beats) {
-            boolean better = false;
-            for (int l = sea.told.levels - 1; l >= 0; l--) {
-                for (int x = sea.told.places - 1; x >= 0; x--) {
-                    if (improve(beats, l, x)) better = true;
-                }
-            }
-            return better;
         }
 
         /** Whether SOUND comes there sooner by a neighbour than was known. */
@@ -1107,7 +1095,7 @@ public final class HungFromIce {
 
         private int beatsFrom(int t, int spot) {
             Row row = rows[t];
-            return row == null ? FAR : row.beats[spot];
+            return row != null && spot >= 0 && spot < SPOTS ? row.beats[spot] : FAR;
         }
     }
 
