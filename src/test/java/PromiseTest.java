@@ -142,7 +142,7 @@ public final class PromiseTest {
         for (String good : new String[] {"n4;", "n24;", "n04;n12;", "l0,0,1;", "l6,9,9;", "l06,09,01;", "t0,0,0,0;", "t11,7,20,20;",
             "n24;t23,0,0,0;m7,23;g7,23,9;", "n24;n4;m0,3;", "m0,0;m0,0;", "g0,0,0;"}) faultOf(good, NONE);
         for (String bad : new String[] {"n3;", "n25;", "n;", "n9", "n", "n9,;", "n9,9;", "n009;", ";", " n9;", "N9;", "x", "l7,0,1;", "l0,0,0;",
-            "l0,0,10;", "l0,10,1;", "l0,0;", "l0,0,1,1;", "l0,0,1,1,1,1;", "l0,,1;", "l,0,1;", "l0,0,1,;", "l0 ,0,1;", "l-1,0,1;", "l0,000,1;", "t12,0,0,0;",
+            "l0,0,10;", "l0,10,1;", "l0,0;", "l0,0,1,1;", "l0,0,1,1,1,1;", "l0,,1;", "l,0,1;", "l0,0,1,;", "l0 ,0,1;", "l0.0,1;", "l0,0.1;", "l0;0;1;", "l0:0:1;", "l-1,0,1;", "l0,000,1;", "t12,0,0,0;",
             "t0,8,0,0;", "t0,0,21,0;", "t0,0,0,21;", "t0,0,0;", "t0,0,0,0,0;", "m8,0;", "m0,12;", "m0;", "m0,0,0;", "g8,0,0;",
             "g0,12,0;", "g0,0,10;", "g0,0;", "g0,0,0,0;", "k0;", "0n9;", "n9:"}) faultOf(bad, 0);
         faultOf("n9;x", 3);
@@ -220,6 +220,13 @@ public final class PromiseTest {
         due("no TOWNS", sea("l0,0,1;").count(2), 0);
         due("12 without n", sea("l0,0,1;").count(1), 12);
         due("the last n", sea("n5;n6;l0,0,1;").count(1), 6);
+        HungFromIce again = sea("n5;l0,0,1;");
+        for (int i = 0; i < 3; i++) {
+            write(again, "l0,0,1;");
+            due("12 without n, whatever was laid", again.lay() * 100L + again.count(1), 112);
+            write(again, "n5;l0,0,1;");
+            due("5 with n5", again.lay() * 100L + again.count(1), 105);
+        }
         due("a THING where a TOWN is is not CAUGHT", sea("l3,0,1;t3,0,0,0;g0,3,0;").thing(0, 3), NONE);
     }
 
@@ -343,6 +350,10 @@ public final class PromiseTest {
         due("BAD ahead of NO", x.hang(1, 6), BAD);
         due("where a CUT one was", x.hang(0, 2), 5);
         due("goes along again", x.thing(0, 1), 2);
+        while (x.count(3) < 7) x.letGo(0, 5);
+        x.steps(1);
+        due("with all THINGS there can be", x.hang(0, 1), 2);
+        due("the last one, too", x.thing(6, 1), 1);
     }
 
     private static void p12Cut() {
@@ -409,6 +420,16 @@ public final class PromiseTest {
         }
         due("no more", x.undo(), NO);
         due("the first three stay", x.count(4), 6);
+        HungFromIce y = sea("n6;l4,5,1;l3,5,1;t2,0,0,0;g0,0,7;");
+        y.steps(1);
+        due("sunk", y.thing(0, 0), 1);
+        y.undo();
+        due("LEVEL", y.thing(0, 0), 0);
+        y.letGo(0, 6);
+        y.steps(1);
+        y.undo();
+        due("WEIGHT", y.thing(1, 2), 6);
+        due("THINGS as they were", y.thing(0, 0) * 100 + y.thing(0, 1), 0);
         x.heard(0, 1);
         x.drifted(0, 0, 0, 1);
         x.steps(1);
@@ -451,6 +472,8 @@ public final class PromiseTest {
         y.steps(6);
         due("CAUGHT at one PLACE", y.meet(0, 1), NONE);
         due("one CAUGHT", y.meet(0, 3), NONE);
+        due("LET GO where one is CAUGHT", y.meet(0, y.letGo(0, 5)), NONE);
+        due("as well", y.meet(4, 0), NONE);
         HungFromIce z = sea("n24;l4,5,1;l3,6,1;g0,1,5;g1,0,6;g0,2,0;");
         due("not in 60", z.meet(0, 1), NONE);
         due("same way", z.meet(0, 2), NONE);
@@ -507,6 +530,22 @@ public final class PromiseTest {
         HungFromIce z = sea("n6;l3,0,1;l3,0,1;l3,0,1;l3,0,1;m0,0;m1,0;m2,0;m3,0;m1,2;m2,2;m1,4;m2,4;");
         due("winds", z.time(1, 1, 1, 3), 4);
         due("winds on", z.time(2, 1, 1, 5), 7);
+        HungFromIce w = sea("n24;" + "l3,0,9;".repeat(8));
+        due("far", w.time(0, 0, 7, 12), 75);
+        due("far", w.time(7, 23, 0, 0), 64);
+        write(w, "n24;" + "l3,0,8;".repeat(8) + "m0,1;m1,0;");
+        w.lay();
+        due("another sea", w.time(0, 0, 7, 12), 68);
+        due("another sea", w.time(7, 23, 0, 0), 57);
+        due("a MARKET there", w.time(0, 0, 1, 0), NONE);
+        due("round it", w.time(0, 0, 0, 2), 18 + 4);
+        write(w, "l3,0,1;");
+        w.lay();
+        due("no MARKET any more", w.time(0, 0, 0, 2), 2);
+        write(w, "l3,0,1;m0,0;");
+        w.lay();
+        due("another MARKET", w.time(0, 0, 0, 2), NONE);
+        due("the other way round", w.time(0, 11, 0, 2), 9);
     }
 
     private static void p18Hears() {
@@ -516,6 +555,7 @@ public final class PromiseTest {
         int[][] want = {{0, 0}, {1, 0}, {2, 4}, {3, 6}, {4, 6}, {5, 14}, {99, 14}};
         for (int[] w : want) due("hears 0 " + w[0], x.hears(0, w[0]), w[1]);
         due("one shut in hears none", x.hears(4, 99), 0);
+        due("the first one, too", x.hears(2, 99), 11);
         x.cut(2);
         due("no TOWN any more", x.hears(0, 99), 10);
         due("CUT", x.hears(2, 99), NO);
@@ -645,6 +685,23 @@ public final class PromiseTest {
         HungFromIce w = sea("n4;l3,0,9;l3,0,1;t0,0,0,0;t2,0,0,0;t3,1,0,0;m0,1;m1,0;m1,1;m1,2;");
         movedTo(w, 9, NONE, NONE, NONE);
         // of LEVELS apart: both must go to where B is small
+        HungFromIce p = sea("n24;" + "l3,0,1;".repeat(2) + "t12,0,0,0;t14,0,0,0;t16,0,0,0;t1,0,0,0;t23,1,0,0;t23,0,0,0;m1,22;m1,0;");
+        // TOWN 4 is 12 from TOWN 0
+        movedTo(p, 12, 0, NONE, NONE);
+        movedTo(p, 10, 2, 24 * 0 + 0, 24 * 1 + 2);
+        HungFromIce o = sea("n24;l3,0,1;t1,0,0,0;t12,0,0,0;");
+        movedTo(o, 1, 1, 24 * 0 + 11, NONE);
+        HungFromIce n = sea("n24;l3,0,1;t23,0,0,0;t12,0,0,0;m0,22;");
+        movedTo(n, 1, 1, 24 * 0 + 11, NONE);
+        HungFromIce k = sea("n24;l3,0,1;t23,0,0,0;t22,0,0,0;t12,0,0,0;t1,0,0,0;");
+        movedTo(k, 3, 1, 24 * 2 + 0, NONE);
+        HungFromIce j = sea("n24;l3,0,1;t23,0,0,0;t22,0,0,0;t12,0,0,0;t14,0,0,0;");
+        movedTo(j, 3, 2, 24 * 0 + 11, 24 * 1 + 13);
+        HungFromIce i = sea("n24;l3,0,1;t12,0,0,0;t13,0,0,0;t14,0,0,0;t2,0,0,0;t1,0,0,0;");
+        movedTo(i, 4, 2, 24 * 3 + 10, 24 * 4 + 11);
+        // TOWN 0 is hung anew as it was before TOWN 1 is
+        HungFromIce h = sea("n24;l3,0,1;t5,0,0,0;t13,0,0,0;t20,0,0,0;t6,0,0,0;");
+        movedTo(h, 3, 2, 24 * 1 + 3, 24 * 2 + 4);
         HungFromIce v = sea("n6;l3,0,2;l3,0,1;t0,0,0,0;t3,1,0,0;");
         movedTo(v, 5, 0, NONE, NONE);
         movedTo(v, 2, 1, 3, NONE);
@@ -740,6 +797,9 @@ public final class PromiseTest {
         due("CUT", x.clear(0, 0), 20);
         x.cut(0);
         due("all CUT", x.clear(0, 0), NONE);
+        HungFromIce y = sea("l3,0,1;l3,0,1;" + "t0,0,0,1;t1,0,0,1;t2,0,0,1;t3,0,0,1;t4,0,0,1;t5,0,4,1;");
+        due("six at one LEVEL", y.clear(0, 1), 1);
+        due("none at the other one", y.clear(1, 1), NONE);
     }
 
     private static void p27Gain() {
@@ -756,6 +816,7 @@ public final class PromiseTest {
         x.cut(2);
         due("none below", x.gain(3), NONE);
         due("20 less 4", x.gain(2), 16);
+        due("above, from LEVEL 0", sea("l3,0,1;l3,0,1;t0,0,0,3;t0,1,0,9;").gain(1), 6);
         due("of one LEVEL", sea("l3,0,1;t0,0,0,0;").gain(0), BAD);
     }
 
@@ -800,6 +861,11 @@ public final class PromiseTest {
         due("-2, 0, 2", x.currents(1), 2 + 8 + 32);
         x.drifted(1, 3, 1, 50);
         due("50 by -2, 0, 2: 2, 0, 4 on", x.currents(1), 32);
+        HungFromIce y = sea("n7;l4,0,1;");
+        y.drifted(0, 1, 6, 1);
+        due("2 back", y.currents(0), 2);
+        y.drifted(0, 3, 1, 50);
+        due("100 back is 2 back", y.currents(0), 2);
     }
 
     private static void leakIs(HungFromIce x, int l, int k, int n, int c, long above, long below) {
@@ -907,6 +973,16 @@ public final class PromiseTest {
         x.steps(1);
         due("nothing KEPT", x.back(), NO);
         due("nothing changes by NO", x.count(7), 1);
+        HungFromIce y = sea("n6;l4,5,1;l3,5,1;t2,0,0,0;g0,0,7;");
+        y.letGo(0, 5);
+        y.keep();
+        y.undo();
+        y.letGo(0, 8);
+        y.steps(1);
+        y.back();
+        due("WEIGHT as KEPT", y.thing(1, 2), 5);
+        due("LEVEL as KEPT", y.thing(0, 0), 0);
+        due("PLACE as KEPT", y.thing(1, 1), 2);
     }
 
     private static void p35Count() {
