@@ -226,6 +226,7 @@ public final class PromiseTest {
             due("12 without n, whatever was laid", again.lay() * 100L + again.count(1), 112);
             write(again, "n5;l0,0,1;");
             due("5 with n5", again.lay() * 100L + again.count(1), 105);
+            due("5 with n5 again", again.lay() * 100L + again.count(1), 105);
         }
         due("a THING where a TOWN is is not CAUGHT", sea("l3,0,1;t3,0,0,0;g0,3,0;").thing(0, 3), NONE);
     }
@@ -350,7 +351,7 @@ public final class PromiseTest {
         due("BAD ahead of NO", x.hang(1, 6), BAD);
         due("where a CUT one was", x.hang(0, 2), 5);
         due("goes along again", x.thing(0, 1), 2);
-        while (x.count(3) < 7) x.letGo(0, 5);
+        for (int i = 0; i < 7; i++) x.letGo(0, 5);
         x.steps(1);
         due("with all THINGS there can be", x.hang(0, 1), 2);
         due("the last one, too", x.thing(6, 1), 1);
@@ -689,6 +690,8 @@ public final class PromiseTest {
         // TOWN 4 is 12 from TOWN 0
         movedTo(p, 12, 0, NONE, NONE);
         movedTo(p, 10, 2, 24 * 0 + 0, 24 * 1 + 2);
+        movedTo(p, 1, NONE, NONE, NONE);
+        movedTo(sea("n24;l3,0,9;l3,0,1;t12,0,0,0;t1,1,0,0;"), 1, NONE, NONE, NONE);
         HungFromIce o = sea("n24;l3,0,1;t1,0,0,0;t12,0,0,0;");
         movedTo(o, 1, 1, 24 * 0 + 11, NONE);
         HungFromIce n = sea("n24;l3,0,1;t23,0,0,0;t12,0,0,0;m0,22;");
