@@ -4,29 +4,7 @@ import java.lang.reflect.Method;
 import java.lang.reflect.Modifier;
 
 /** Each promise of the document by its number: ordinary calls, the edges that it names, wrong numbers. */
-public final class PromiseTest {
-    private static final int BAD = -1, NO = -2, FULL = -3, NONE = -4;
-    private static int wrong = 0;
-    private static int promise = 0;
-
-    private static void due(String call, long got, long want) {
-        if (got == want) return;
-        wrong++;
-        System.out.println("promise " + promise + ": " + call + " answered " + got + ", due is " + want);
-    }
-
-    private static void write(HungFromIce x, String text) {
-        x.wipe();
-        for (int i = 0; i < text.length(); i++) due("write of " + text.charAt(i), x.write(text.charAt(i)), i + 1);
-    }
-
-    private static HungFromIce sea(String text) {
-        HungFromIce x = new HungFromIce();
-        write(x, text);
-        if (x.lay() < 1) due("lay of " + text, NO, 1);
-        return x;
-    }
-
+public final class PromiseTest extends Seas {
     public static void main(String[] args) {
         face();
         p1NewObject();
@@ -64,8 +42,7 @@ public final class PromiseTest {
         p33Keep();
         p34Back();
         p35Count();
-        System.out.println(wrong == 0 ? "all promises hold" : wrong + " answers are not as due");
-        if (wrong != 0) System.exit(1);
+        end("all promises hold");
     }
 
     private static void face() {
@@ -86,7 +63,7 @@ public final class PromiseTest {
     }
 
     private static void p1NewObject() {
-        promise = 1;
+        of("promise 1");
         HungFromIce x = new HungFromIce();
         int[] counts = {3, 12, 2, 1, 0, 0, 0, 0, 0, 0};
         for (int i = 0; i < counts.length; i++) due("count " + i, x.count(i), counts[i]);
@@ -102,7 +79,7 @@ public final class PromiseTest {
     }
 
     private static void p2Write() {
-        promise = 2;
+        of("promise 2");
         HungFromIce x = new HungFromIce();
         due("31", x.write(31), BAD);
         due("127", x.write(127), BAD);
@@ -119,7 +96,7 @@ public final class PromiseTest {
     }
 
     private static void p3Wipe() {
-        promise = 3;
+        of("promise 3");
         HungFromIce x = new HungFromIce();
         due("wipe", x.wipe(), 0);
         write(x, "n9;");
@@ -129,15 +106,8 @@ public final class PromiseTest {
         due("writing begins anew", x.write('n'), 1);
     }
 
-    private static void faultOf(String text, int want) {
-        HungFromIce x = new HungFromIce();
-        write(x, text);
-        due("fault of " + text, x.fault(), want);
-        due("fault again of " + text, x.fault(), want);
-    }
-
     private static void p4Fault() {
-        promise = 4;
+        of("promise 4");
         faultOf("", NONE);
         for (String good : new String[] {"n4;", "n24;", "n04;n12;", "l0,0,1;", "l6,9,9;", "l06,09,01;", "t0,0,0,0;", "t11,7,20,20;",
             "n24;t23,0,0,0;m7,23;g7,23,9;", "n24;n4;m0,3;", "m0,0;m0,0;", "g0,0,0;"}) faultOf(good, NONE);
@@ -196,7 +166,7 @@ public final class PromiseTest {
     }
 
     private static void p5Lay() {
-        promise = 5;
+        of("promise 5");
         for (String text : new String[] {"", "n9;", "n9;t0,0,0,0;", "l0,0,1;t0,1,0,0;", "l0,0,1;m1,0;", "l0,0,1;g1,0,0;", "l0,0,1;x",
             "l0,0,1;t0,0,0,0;t0,0,1,1;", "l0,0,1;t3,0,0,0;m0,3;", "l0,0,1;m0,3;t3,0,0,0;", "l0,0,1;l0,0,1;t3,1,0,0;t2,0,0,0;t3,1,0,0;"}) cannotLay(text);
         HungFromIce x = new HungFromIce();
@@ -232,7 +202,7 @@ public final class PromiseTest {
     }
 
     private static void p6Level() {
-        promise = 6;
+        of("promise 6");
         HungFromIce x = sea("l0,9,9;l6,0,1;");
         due("level 0 0", x.level(0, 0), 0);
         due("level 0 1", x.level(0, 1), 9);
@@ -247,7 +217,7 @@ public final class PromiseTest {
     }
 
     private static void p7Town() {
-        promise = 7;
+        of("promise 7");
         HungFromIce x = sea("l3,0,1;l3,0,1;t1,0,0,20;t11,1,20,0;");
         int[][] want = {{0, 1, 0, 20, 0}, {1, 11, 20, 0, 0}};
         for (int t = 0; t < 2; t++) for (int i = 0; i < 5; i++) due("town " + t + " " + i, x.town(t, i), want[t][i]);
@@ -262,7 +232,7 @@ public final class PromiseTest {
     }
 
     private static void p8Thing() {
-        promise = 8;
+        of("promise 8");
         HungFromIce x = sea("n5;l4,5,1;l3,5,1;t2,0,0,0;g0,0,5;g1,4,7;");
         int[][] want = {{0, 0, 5, NONE}, {1, 4, 7, NONE}};
         for (int g = 0; g < 2; g++) for (int i = 0; i < 4; i++) due("thing " + g + " " + i, x.thing(g, i), want[g][i]);
@@ -276,7 +246,7 @@ public final class PromiseTest {
     }
 
     private static void p9Steps() {
-        promise = 9;
+        of("promise 9");
         HungFromIce x = sea("n5;l1,5,1;l6,5,1;l3,9,1;g0,0,6;g1,3,4;g0,1,5;g2,0,9;g0,4,0;");
         for (int bad : new int[] {0, -1, 61, Integer.MAX_VALUE, Integer.MIN_VALUE}) due("steps " + bad, x.steps(bad), BAD);
         due("steps 1", x.steps(1), 1);
@@ -307,7 +277,7 @@ public final class PromiseTest {
     }
 
     private static void p10LetGo() {
-        promise = 10;
+        of("promise 10");
         HungFromIce x = sea("n6;l4,5,1;l3,5,1;t2,0,0,0;t4,1,0,0;g0,0,0;g0,0,1;g0,0,2;");
         for (int[] bad : new int[][] {{2, 0}, {-1, 0}, {0, 10}, {0, -1}}) due("letGo", x.letGo(bad[0], bad[1]), BAD);
         due("letGo", x.letGo(1, 0), 3);
@@ -330,7 +300,7 @@ public final class PromiseTest {
     }
 
     private static void p11Hang() {
-        promise = 11;
+        of("promise 11");
         HungFromIce x = sea("n6;l3,5,1;l3,5,1;t2,0,0,0;t4,0,0,0;t5,1,0,0;m0,3;m1,1;g0,1,5;g0,2,5;");
         for (int[] bad : new int[][] {{3, 0}, {-1, 0}, {0, 6}, {0, -1}}) due("hang", x.hang(bad[0], bad[1]), BAD);
         due("the same PLACE", x.hang(0, 2), NO);
@@ -358,7 +328,7 @@ public final class PromiseTest {
     }
 
     private static void p12Cut() {
-        promise = 12;
+        of("promise 12");
         HungFromIce x = sea("n6;l3,5,1;l3,9,1;t2,0,0,0;t4,0,0,0;t2,1,0,0;g0,2,5;g0,4,5;g0,2,5;");
         x.steps(1);
         due("cut -1", x.cut(-1), BAD);
@@ -386,7 +356,7 @@ public final class PromiseTest {
     }
 
     private static void p13Undo() {
-        promise = 13;
+        of("promise 13");
         HungFromIce x = sea("n6;l4,5,1;l3,5,1;t2,0,0,0;t4,0,0,0;g0,0,5;");
         due("nothing", x.undo(), NO);
         x.steps(2);
@@ -440,7 +410,7 @@ public final class PromiseTest {
     }
 
     private static void p14Behind() {
-        promise = 14;
+        of("promise 14");
         HungFromIce x = sea("n6;l4,5,1;l2,7,1;l3,9,1;t2,1,0,0;g0,0,7;g1,2,9;");
         for (int[] bad : new int[][] {{-1, 0, 0}, {61, 0, 0}, {0, 2, 0}, {0, -1, 0}, {0, 0, 3}, {0, 0, -1}}) due("behind", x.behind(bad[0], bad[1], bad[2]), BAD);
         int[][] way = {{0, 0, NONE}, {1, 1, NONE}, {1, 0, NONE}, {1, 5, NONE}, {1, 4, NONE}, {1, 3, NONE}, {1, 2, 0}, {1, 2, 0}};
@@ -460,7 +430,7 @@ public final class PromiseTest {
     }
 
     private static void p15Meet() {
-        promise = 15;
+        of("promise 15");
         HungFromIce x = sea("n8;l4,5,1;l3,7,1;t6,0,0,0;g0,0,5;g0,3,5;g1,5,7;g0,4,6;g1,2,7;");
         for (int[] bad : new int[][] {{0, 0}, {5, 0}, {0, 5}, {-1, 0}, {0, -1}}) due("meet", x.meet(bad[0], bad[1]), BAD);
         due("never", x.meet(0, 1), NONE);
@@ -492,7 +462,7 @@ public final class PromiseTest {
     }
 
     private static void p16Round() {
-        promise = 16;
+        of("promise 16");
         HungFromIce x = sea("n24;l4,5,1;l3,7,1;l5,9,1;t3,0,0,0;g0,2,5;g0,0,6;g1,4,7;g2,0,9;");
         due("-1", x.round(-1), BAD);
         due("4", x.round(4), BAD);
@@ -510,7 +480,7 @@ public final class PromiseTest {
     }
 
     private static void p17Time() {
-        promise = 17;
+        of("promise 17");
         HungFromIce x = sea("n8;l3,0,2;l3,0,9;l3,0,5;m0,2;m1,2;m1,3;m2,6;");
         int[][] bad = {{3, 0, 0, 0}, {-1, 0, 0, 0}, {0, 8, 0, 0}, {0, -1, 0, 0}, {0, 0, 3, 0}, {0, 0, -1, 0}, {0, 0, 0, 8}, {0, 0, 0, -1}};
         for (int[] b : bad) due("time", x.time(b[0], b[1], b[2], b[3]), BAD);
@@ -550,7 +520,7 @@ public final class PromiseTest {
     }
 
     private static void p18Hears() {
-        promise = 18;
+        of("promise 18");
         HungFromIce x = sea("n8;l3,0,2;l3,0,3;l3,0,1;t0,0,0,0;t3,0,0,0;t0,1,0,0;t0,2,0,0;t5,2,0,0;m2,4;m2,6;m1,5;");
         for (int[] bad : new int[][] {{5, 0}, {-1, 0}, {0, 100}, {0, -1}}) due("hears", x.hears(bad[0], bad[1]), BAD);
         int[][] want = {{0, 0}, {1, 0}, {2, 4}, {3, 6}, {4, 6}, {5, 14}, {99, 14}};
@@ -566,7 +536,7 @@ public final class PromiseTest {
     }
 
     private static void p19Shadow() {
-        promise = 19;
+        of("promise 19");
         HungFromIce x = sea("n8;l3,0,1;l3,0,1;m1,4;m1,6;m0,5;m0,0;m0,0;t5,1,0,0;t1,0,0,0;t2,0,0,0;");
         due("-1", x.shadow(-1), BAD);
         due("3", x.shadow(3), BAD);
@@ -580,7 +550,7 @@ public final class PromiseTest {
     }
 
     private static void p20Heard() {
-        promise = 20;
+        of("promise 20");
         HungFromIce x = new HungFromIce();
         for (int[] bad : new int[][] {{2, 0}, {-1, 0}, {0, 100}, {0, -1}}) due("heard", x.heard(bad[0], bad[1]), BAD);
         due("heard", x.heard(0, 0), 1);
@@ -599,7 +569,7 @@ public final class PromiseTest {
     }
 
     private static void p21Hush() {
-        promise = 21;
+        of("promise 21");
         HungFromIce x = new HungFromIce();
         due("nothing", x.hush(), 0);
         x.heard(0, 1);
@@ -611,7 +581,7 @@ public final class PromiseTest {
     }
 
     private static void p22Whence() {
-        promise = 22;
+        of("promise 22");
         HungFromIce x = sea("n8;l3,0,2;l3,0,1;t0,0,0,0;t4,0,0,0;t2,1,0,0;m0,6;");
         due("-1", x.whence(-1), BAD);
         due("2", x.whence(2), BAD);
@@ -657,14 +627,8 @@ public final class PromiseTest {
         due("the TOWN's own", y.whence(1), 0);
     }
 
-    private static void movedTo(HungFromIce x, int b, int many, int one, int two) {
-        due("moved " + b + " 0", x.moved(b, 0), many);
-        due("moved " + b + " 1", x.moved(b, 1), one);
-        due("moved " + b + " 2", x.moved(b, 2), two);
-    }
-
     private static void p23Moved() {
-        promise = 23;
+        of("promise 23");
         HungFromIce x = sea("n12;l3,0,1;t0,0,0,0;t2,0,0,0;t6,0,0,0;");
         for (int[] bad : new int[][] {{100, 0}, {-1, 0}, {5, 3}, {5, -1}}) due("moved", x.moved(bad[0], bad[1]), BAD);
         movedTo(x, 6, 0, NONE, NONE);
@@ -724,7 +688,7 @@ public final class PromiseTest {
     }
 
     private static void p24Sent() {
-        promise = 24;
+        of("promise 24");
         HungFromIce x = sea("n8;l4,4,1;l3,6,1;l4,8,1;t0,0,0,0;t3,0,0,0;t1,1,0,0;t5,2,0,0;");
         for (int[] bad : new int[][] {{0, 0, 0}, {4, 0, 0}, {0, 4, 0}, {-1, 0, 0}, {0, -1, 0}, {0, 1, 2}, {0, 1, -1}}) due("sent", x.sent(bad[0], bad[1], bad[2]), BAD);
         due("the lowest of 0 to 4", x.sent(0, 1, 0), 0);
@@ -759,7 +723,7 @@ public final class PromiseTest {
     }
 
     private static void p25Fall() {
-        promise = 25;
+        of("promise 25");
         HungFromIce x = sea("n8;l4,4,1;l3,6,1;l5,9,1;t0,0,0,0;t1,1,0,0;t4,2,0,0;t1,2,0,0;t3,0,0,0;");
         for (int[] bad : new int[][] {{5, 0}, {-1, 0}, {0, 2}, {0, -1}}) due("fall", x.fall(bad[0], bad[1]), BAD);
         int[][] want = {{1, 1}, {3, 1}, {NONE, NONE}, {NONE, NONE}, {2, 2}};
@@ -784,7 +748,7 @@ public final class PromiseTest {
     }
 
     private static void p26Clear() {
-        promise = 26;
+        of("promise 26");
         HungFromIce x = sea("l3,0,1;l3,0,1;l3,0,1;l3,0,1;t0,0,0,20;t1,0,3,9;t0,1,5,5;t0,3,20,0;");
         for (int[] bad : new int[][] {{1, 0}, {4, 4}, {0, 4}, {-1, 0}, {0, -1}}) due("clear", x.clear(bad[0], bad[1]), BAD);
         // 20 - p and 9 - p against 3: 17
@@ -806,7 +770,7 @@ public final class PromiseTest {
     }
 
     private static void p27Gain() {
-        promise = 27;
+        of("promise 27");
         HungFromIce x = sea("l3,0,1;l3,0,1;l3,0,1;l3,0,1;t0,1,5,9;t0,2,0,20;t1,3,3,9;");
         due("0", x.gain(0), BAD);
         due("4", x.gain(4), BAD);
@@ -824,7 +788,7 @@ public final class PromiseTest {
     }
 
     private static void p28Drifted() {
-        promise = 28;
+        of("promise 28");
         HungFromIce x = sea("n5;l3,0,1;l3,0,1;");
         int[][] bad = {{2, 0, 0, 1}, {-1, 0, 0, 1}, {0, 5, 0, 1}, {0, -1, 0, 1}, {0, 0, 5, 1}, {0, 0, -1, 1}, {0, 0, 0, 0}, {0, 0, 0, 51}};
         for (int[] b : bad) due("drifted", x.drifted(b[0], b[1], b[2], b[3]), BAD);
@@ -836,7 +800,7 @@ public final class PromiseTest {
     }
 
     private static void p29Forget() {
-        promise = 29;
+        of("promise 29");
         HungFromIce x = new HungFromIce();
         due("nothing", x.forget(), 0);
         x.drifted(0, 0, 1, 1);
@@ -848,7 +812,7 @@ public final class PromiseTest {
     }
 
     private static void p30Currents() {
-        promise = 30;
+        of("promise 30");
         HungFromIce x = sea("n6;l4,0,1;l3,0,1;");
         due("-1", x.currents(-1), BAD);
         due("2", x.currents(2), BAD);
@@ -877,7 +841,7 @@ public final class PromiseTest {
     }
 
     private static void p31Leak() {
-        promise = 31;
+        of("promise 31");
         HungFromIce x = sea("l3,9,1;l3,0,1;l3,1,1;l3,4,1;");
         int[][] bad = {{4, 0, 0, 0, 0}, {-1, 0, 0, 0, 0}, {0, 10, 0, 0, 0}, {0, -1, 0, 0, 0}, {0, 0, 10, 0, 0}, {0, 0, -1, 0, 0},
             {0, 0, 0, 11, 0}, {0, 0, 0, -1, 0}, {0, 0, 0, 0, 2}, {0, 0, 0, 0, -1}};
@@ -902,7 +866,7 @@ public final class PromiseTest {
     }
 
     private static void p32Year() {
-        promise = 32;
+        of("promise 32");
         HungFromIce x = new HungFromIce();
         int[][] bad = {{-1, 1, 0}, {10000, 1, 0}, {0, 0, 0}, {0, 61, 0}, {0, 1, 2}, {0, 1, -2}};
         for (int[] b : bad) due("year", x.year(b[0], b[1], b[2]), BAD);
@@ -931,7 +895,7 @@ public final class PromiseTest {
     }
 
     private static void p33Keep() {
-        promise = 33;
+        of("promise 33");
         HungFromIce x = new HungFromIce();
         due("1", x.keep(), 1);
         x.steps(1);
@@ -946,7 +910,7 @@ public final class PromiseTest {
     }
 
     private static void p34Back() {
-        promise = 34;
+        of("promise 34");
         HungFromIce x = sea("n6;l4,5,1;l3,5,1;t2,0,0,0;t4,0,0,0;g0,0,5;");
         due("nothing", x.back(), NO);
         x.steps(2);
@@ -989,7 +953,7 @@ public final class PromiseTest {
     }
 
     private static void p35Count() {
-        promise = 35;
+        of("promise 35");
         HungFromIce x = sea("n9;l3,0,1;l3,0,1;l3,0,1;l3,0,1;t0,0,0,0;t1,0,0,0;t2,0,0,0;g0,0,0;g0,1,0;");
         x.steps(7);
         x.cut(2);
