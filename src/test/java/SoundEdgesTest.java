@@ -1,8 +1,11 @@
 /** Part 3 of the document: beats, what is shut out, HEARD, WHENCE and MOVED, from the least to the most. */
 public final class SoundEdgesTest extends Seas {
     /** Shut from top to bottom at PLACE 0, so that there is no way round: 22 PLACES and 7 LEVELS of 9 beats. */
-    private static final String LONGEST = "n24;" + "l3,0,9;".repeat(8)
+    private static final String SHUT = "n24;" + "l3,0,9;".repeat(8)
         + "m0,0;m1,0;m2,0;m3,0;m4,0;m5,0;m6,0;m7,0;t1,0,0,0;t23,7,0,0;t22,7,0,0;";
+    /** TOWN 0 shut in, but for the ice: up 3 LEVELS, 4 PLACES to the only way out, down 7, round to the others. */
+    private static final String FARTHEST = "n24;" + "l3,0,9;".repeat(8)
+        + "m0,6;m1,0;m1,6;m2,1;m2,5;m3,2;m3,4;m4,3;t3,3,0,0;t4,7,0,0;t5,7,0,0;t11,7,0,0;";
     private static final String SIX = "t0,0,0,0;t1,0,0,0;t2,0,0,0;t3,0,0,0;t4,0,0,0;t5,0,0,0;";
 
     public static void main(String[] args) {
@@ -112,15 +115,22 @@ public final class SoundEdgesTest extends Seas {
 
     private static void farthest() {
         of("the fewest beats: the farthest");
-        HungFromIce x = sea(LONGEST);
-        due("the farthest", x.time(0, 1, 7, 23), 85);
+        HungFromIce x = sea(SHUT);
+        due("the other way round", x.time(0, 1, 7, 23), 85);
         due("and back", x.time(7, 23, 0, 1), 85);
         due("nobody in SHADOW", x.shadow(0), 0);
+        HungFromIce y = sea(FARTHEST);
+        for (int to = 0; to < 24; to++) {
+            int round = Math.min(23 - to, to + 1);
+            due("up, out, down and round to " + to, y.time(3, 3, 7, to), 27 + 4 + 63 + round);
+            due("and back", y.time(7, to, 3, 3), 27 + 4 + 63 + round);
+        }
+        due("nobody in SHADOW", y.shadow(0), 0);
     }
 
     private static void hearsWithin() {
         of("HEARS: within b beats (0 to 99)");
-        HungFromIce x = sea(LONGEST);
+        HungFromIce x = sea(SHUT);
         due("83", x.hears(0, 83), 0);
         due("84", x.hears(0, 84), 4);
         due("85", x.hears(0, 85), 6);
@@ -133,6 +143,14 @@ public final class SoundEdgesTest extends Seas {
         due("85 from the other one", x.hears(1, 85), 5);
         HungFromIce y = sea("n24;l3,0,1;t0,0,0,0;t12,0,0,0;");
         for (int b = 0; b <= 99; b++) due("within " + b, y.hears(0, b), b < 12 ? 0 : 2);
+        of("HEARS: within 99 beats, but not 100");
+        HungFromIce z = sea(FARTHEST);
+        due("98", z.hears(0, 98), 0);
+        due("99", z.hears(0, 99), 2);
+        due("100", z.hears(0, 100), BAD);
+        due("99 from the one that is heard", z.hears(1, 99), 1 + 4 + 8);
+        due("99 from the one that is not", z.hears(2, 99), 2 + 8);
+        due("99 from the farthest", z.hears(3, 99), 2 + 4);
     }
 
     private static void hearsOthers() {
@@ -229,6 +247,19 @@ public final class SoundEdgesTest extends Seas {
     }
 
     private static void whenceOneBeat() {
+        of("WHENCE: it can have come to all of these at those beats, 106 beats ago as well");
+        HungFromIce far = sea(FARTHEST);
+        far.heard(0, 0);
+        due("from anywhere", far.whence(0), 184);
+        far.hush();
+        far.heard(1, 0);
+        far.heard(0, 99);
+        // from TOWN 1 and from what lies behind it, up to TOWN 3
+        due("99 later", far.whence(0) * 1000 + far.whence(1), 8172);
+        far.hush();
+        far.heard(3, 0);
+        far.heard(0, 99);
+        due("99 later than at TOWN 3: none", far.whence(0), 0);
         of("WHENCE: it can have come to all of these at those beats");
         HungFromIce x = sea("n12;l3,0,1;t0,0,0,0;t6,0,0,0;");
         x.heard(0, 50);
@@ -297,8 +328,8 @@ public final class SoundEdgesTest extends Seas {
             movedTo(sea("l3,0,1;"), b, 0, NONE, NONE);
             movedTo(sea("l3,0,1;t0,0,0,0;"), b, 0, NONE, NONE);
         }
-        movedTo(sea(LONGEST), 99, 0, NONE, NONE);
-        movedTo(sea(LONGEST), 85, 0, NONE, NONE);
+        movedTo(sea(SHUT), 99, 0, NONE, NONE);
+        movedTo(sea(SHUT), 85, 0, NONE, NONE);
         movedTo(sea("n24;l3,0,1;" + SIX), 5, 0, NONE, NONE);
         for (int b : new int[] {-1, 100, Integer.MIN_VALUE, Integer.MAX_VALUE}) {
             for (int what = 0; what < 3; what++) due("moved " + b, new HungFromIce().moved(b, what), BAD);
@@ -310,7 +341,8 @@ public final class SoundEdgesTest extends Seas {
 
     private static void movedOne() {
         of("MOVED: one TOWN, the first of several, its first PLACE");
-        movedTo(sea(LONGEST), 84, 1, 2, NONE);
+        movedTo(sea(SHUT), 84, 1, 2, NONE);
+        movedTo(sea(FARTHEST), 99, 1, 0, NONE);
         movedTo(sea("n24;l3,0,1;t0,0,0,0;t12,0,0,0;"), 12, 0, NONE, NONE);
         movedTo(sea("n24;l3,0,1;t0,0,0,0;t12,0,0,0;"), 11, 1, 1, NONE);
         movedTo(sea("n24;l3,0,1;t2,0,0,0;t12,0,0,0;m0,11;m0,10;m0,9;m0,13;m0,14;"), 3, 1, 24 + 0, NONE);
